@@ -1173,19 +1173,14 @@ public final class TrouserWash {
 
         private int sorts(int d) {
             int found = 0;
-            for (int begin = 0; begin < size; begin = behindSort(begin, d)) {
-                found++;
+            int begin = 0;
+            for (int i = 0; i < size; i++) {
+                if (i == 0 || shades[i] - shades[begin] > d) {
+                    found++;
+                    begin = i;
+                }
             }
             return found;
-        }
-
-        /** Always above begin, as the one that begins a sort is in it. */
-        private int behindSort(int begin, int d) {
-            int behind = begin + 1;
-            while (behind < size && shades[behind] - shades[begin] <= d) {
-                behind++;
-            }
-            return behind;
         }
 
         int fullPacks(int n, int d) {
@@ -1193,10 +1188,12 @@ public final class TrouserWash {
                 return 0;
             }
             int found = 0;
-            int behind = 0;
-            for (int begin = 0; begin < size; begin = behind) {
-                behind = behindSort(begin, d);
-                found += (behind - begin) / n;
+            int begin = 0;
+            for (int i = 1; i <= size; i++) {
+                if (i == size || shades[i] - shades[begin] > d) {
+                    found += (i - begin) / n;
+                    begin = i;
+                }
             }
             return found;
         }
