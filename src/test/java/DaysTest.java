@@ -13,6 +13,8 @@ final class DaysTest {
         tankThatIsNotThere();
         machinesByNumber();
         laterRecipeChangesNothing();
+        aWholeDay();
+        fourMachines();
         calendar();
         Check.done("DaysTest");
     }
@@ -315,6 +317,42 @@ final class DaysTest {
         x.days(1);
         led(x, 0, 3, 1, 5, 92, 6, 96, 7, 80);
         led(x, 1, 3, 2, 5, 92, 6, 98, 7, 74);
+    }
+
+    /** 480 minutes are a day: a 481st is not left. */
+    private static void aWholeDay() {
+        TrouserWash x = withCloth();
+        Check.house(x, "minutes wash 24;minutes rinse 1");
+        Check.recipe(x, "wash 20;rinse");
+        x.machine(1);
+        x.load(lot(x, 1, 0), 0);
+        x.days(1);
+        led(x, 0, 0, 2, 2, 1);
+        works(x, 0, 1, 0, 0, 0, 480);
+        x.days(1);
+        led(x, 0, 0, 3, 2, 2, 4, 2);
+        Check.recipe(x, "wash 20");
+        x.load(lot(x, 1, 0), 0);
+        x.recipe();
+        x.load(lot(x, 1, 0), 0);
+        x.days(1);
+        led(x, 1, 0, 3, 4, 3);
+        led(x, 2, 0, 3, 4, 3);
+    }
+
+    private static void fourMachines() {
+        TrouserWash x = withCloth();
+        x.cloth(50, 50, 5);
+        for (int i = 0; i < 4; i++) {
+            x.machine(1);
+            x.lot(1, 1, i, 0, 255, 0, 0);
+            x.load(i, i);
+        }
+        x.days(1);
+        for (int i = 0; i < 4; i++) {
+            led(x, i, 0, 3, 1, i, 4, 1, 9, 0, 15, 1);
+            works(x, i, 1, -1, 0, i, 0);
+        }
     }
 
     private static void calendar() {

@@ -47,6 +47,7 @@ final class PatternTest {
         x.burn(0, 5, 3);
         Check.is("burned by no pattern", x.burned(0, 11, 7), 0);
         Check.argument("place 1, 0 of 1 times 1", () -> x.heat(1, 0, 0));
+        Check.argument("place 0, 1 of 1 times 1", () -> x.heat(0, 1, 0));
         Check.is("heat 0 as it is", x.heat(0, 0, 0), false);
         x.pattern(6, 4);
         Check.argument("x 6", () -> x.heat(6, 0, 0));

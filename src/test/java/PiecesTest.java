@@ -10,6 +10,7 @@ final class PiecesTest {
         againKeepsLye();
         delivering();
         packsByShade();
+        shadesAtTheEnds();
         packsOfOthersNot();
         Check.done("PiecesTest");
     }
@@ -44,6 +45,7 @@ final class PiecesTest {
         Check.argument("shade 256", () -> x.measure(0, 0, 256));
         Check.argument("shade -1", () -> x.measure(0, 0, -1));
         Check.is("measure", x.measure(0, 0, 100), 0);
+        Check.is("the only one is known", x.known(0, 0, 1), 2);
         Check.is("odd", x.count(15), 0);
         Check.is("measure", x.measure(0, 1, 99), 1);
         Check.is("measure", x.measure(0, 1, 101), 2);
@@ -211,11 +213,43 @@ final class PiecesTest {
         Check.is("ready", x.ready(0), 1);
         x.days(2);
         Check.is("late", x.deliver(0, 1), 2);
+        onTheDueDay();
         Check.is("delivered of both", x.led(1, 13), 1);
         Check.is("packs", x.count(16), 2);
         Check.is("late pieces", x.count(17), 2);
         Check.is("ready", x.ready(0), 0);
         Check.is("deliver", x.deliver(0, 1), -1);
+    }
+
+    private static void onTheDueDay() {
+        TrouserWash x = washed(2);
+        Check.house(x, "pack 1");
+        measureAll(x, 0, 100, 101);
+        x.days(1);
+        Check.is("on the day it is due", x.deliver(0, 1), 0);
+        x.days(1);
+        Check.is("a day later", x.deliver(0, 1), 1);
+    }
+
+    private static void shadesAtTheEnds() {
+        TrouserWash x = new TrouserWash();
+        x.cloth(255, 80, 0);
+        x.machine(60);
+        x.lot(0, 5, 0, 0, 255, 50, 2);
+        x.load(0, 0);
+        x.days(1);
+        Check.house(x, "pack 2;band 1");
+        measureAll(x, 0, 255, 0, 1, 254, 128);
+        Check.is("0 1, 254 255", x.ready(0), 2);
+        Check.is("both", x.deliver(0, 2), 0);
+        Check.is("the one between stays", x.led(0, 12), 1);
+        Check.is("and is good", x.sorted(0, 1, 2), 1);
+        x.lot(0, 1, 0, 0, 255, 50, 2);
+        x.load(1, 0);
+        x.days(1);
+        x.measure(1, 0, 255);
+        Check.house(x, "pack 2;band 50");
+        Check.is("128 and 255 are no pack", x.ready(0), 0);
     }
 
     private static void packsByShade() {

@@ -8,6 +8,7 @@ final class RecipeTest {
         wrongTexts();
         mostBaths();
         wrongTextChangesNothing();
+        bytesBehindTheEnd();
         Check.done("RecipeTest");
     }
 
@@ -43,6 +44,31 @@ final class RecipeTest {
         Check.argument("a byte above 127", x::recipe);
         Check.is("its place", x.fault(), 8);
         Check.is("used up by a wrong text too", x.end(1), false);
+    }
+
+    /** What stood behind the place where the TAPE was cut is not read. */
+    private static void bytesBehindTheEnd() {
+        TrouserWash x = new TrouserWash();
+        Check.put(x, "rinse;              ");
+        x.end(6);
+        Check.argument("cut ahead of blanks", x::recipe);
+        Check.is("its place", x.fault(), 6);
+        Check.put(x, "wash 12");
+        x.end(6);
+        Check.is("cut inside a number", x.recipe(), 1);
+        Check.is("its cost", x.cost(), 1);
+        Check.put(x, "rinses");
+        x.end(5);
+        Check.is("cut inside a word", x.recipe(), 1);
+        Check.put(x, " ".repeat(400));
+        Check.is("400 blanks", x.recipe(), 0);
+        Check.put(x, " ".repeat(395) + "rinse");
+        Check.is("a word that ends with the TAPE", x.recipe(), 1);
+        Check.put(x, " ".repeat(394) + "wash20");
+        Check.is("a number that ends with the TAPE", x.recipe(), 1);
+        Check.put(x, " ".repeat(399) + "x");
+        Check.argument("the last byte", x::recipe);
+        Check.is("its place", x.fault(), 399);
     }
 
     private static void cloths() {
@@ -93,6 +119,8 @@ final class RecipeTest {
         wrong("wash -1", 5);
         wrong("washer 1", 0);
         wrong("was 1", 0);
+        wrong("washz 1", 0);
+        wrong("washa 1", 0);
         wrong("washstone 1", 0);
         wrong("Wash 1", 0);
         wrong("wAsh 1", 0);

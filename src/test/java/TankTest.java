@@ -7,6 +7,7 @@ final class TankTest {
         roundedUp();
         exactOrder();
         bearsExactly();
+        oneLitre();
         largeNumbers();
         nothingIsLost();
         Check.done("TankTest");
@@ -105,6 +106,15 @@ final class TankTest {
         Check.is("bears 1", y.draw(1, 1), 0);
         tank(y, 0, 1000, 999, 0);
         Check.is("the dirt went along: clean now", y.draw(999, 0), 0);
+    }
+
+    private static void oneLitre() {
+        TrouserWash x = new TrouserWash();
+        x.tank(1);
+        x.pour(0, 1, 1);
+        Check.is("100 in a hundred are borne", x.draw(2, 100), 1);
+        tank(x, 0, 1, 0, 0);
+        Check.is("dirt drawn", x.count(7), 1);
     }
 
     private static void largeNumbers() {
