@@ -539,6 +539,7 @@ public final class TrouserWash {
     private void finishIfNoneLeft(Machine one, Lot in) {
         if (in.done >= in.recipe.length) {
             in.state = Lot.WASHED;
+            in.machine = NONE;
             in.washedOn = today;
             one.inside = NONE;
         }
@@ -1336,6 +1337,7 @@ public final class TrouserWash {
         private final Recipe recipe;
         private final Look look = new Look();
         private int state = WAITING;
+        /** The MACHINE on which it is LOADED, or in which it is. */
         private int machine = NONE;
         private int done;
         private int washedOn = NONE;

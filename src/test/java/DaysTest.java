@@ -102,6 +102,7 @@ final class DaysTest {
         works(x, 0, 10, -1, 1, -1, 0);
         x.days(1);
         Check.is("washed", x.load(0, 0), false);
+        led(x, 0, 0, 3, 1, -1);
     }
 
     /** 10 pieces, 50 litres a bath; wash 15, stone 8, bleach 5, rinse 4 minutes. */
@@ -114,7 +115,7 @@ final class DaysTest {
         Check.is("days(0)", x.days(0), 0);
         led(x, 0, 0, 1);
         Check.is("days(1)", x.days(1), 1);
-        led(x, 0, 0, 3, 1, 0, 2, 4, 3, 4, 4, 1, 5, 87, 6, 94, 7, 75, 8, 78, 9, 0, 14, 1);
+        led(x, 0, 0, 3, 1, -1, 2, 4, 3, 4, 4, 1, 5, 87, 6, 94, 7, 75, 8, 78, 9, 0, 14, 1);
         works(x, 0, 60, -1, 0, 3, 32);
         Check.is("fresh", x.count(4), 200);
         Check.is("ran off", x.count(5), 200);
@@ -137,14 +138,14 @@ final class DaysTest {
         led(x, 0, 0, 2, 1, 0, 2, 1, 4, -1, 5, 80, 6, 90);
         works(x, 0, 60, 0, 1, 2, 400);
         x.days(1);
-        led(x, 0, 0, 2, 2, 2, 4, -1);
+        led(x, 0, 0, 2, 1, 0, 2, 2, 4, -1);
         works(x, 0, 60, 0, 1, 2, 800);
         x.days(1);
         led(x, 0, 0, 2, 2, 3);
         works(x, 0, 60, 0, 1, 2, 1280);
         x.days(1);
-        led(x, 0, 0, 3, 2, 4, 4, 4);
-        led(x, 1, 0, 2, 2, 1);
+        led(x, 0, 0, 3, 1, -1, 2, 4, 4, 4);
+        led(x, 1, 0, 2, 1, 0, 2, 1);
         works(x, 0, 60, 1, 0, 4, 1740);
         Check.house(x, "minutes stone 25");
         x.days(10);
@@ -160,11 +161,11 @@ final class DaysTest {
         led(x, 0, 0, 0, 14, 1);
         x.load(0, 0);
         x.load(1, 0);
-        led(x, 0, 0, 1);
+        led(x, 0, 0, 1, 1, 0);
         x.carry(1, 2, 9);
         x.days(1);
-        led(x, 0, 0, 3, 4, 1, 2, 0);
-        led(x, 1, 0, 3, 4, 1, 2, 0);
+        led(x, 0, 0, 3, 1, -1, 4, 1, 2, 0);
+        led(x, 1, 0, 3, 1, -1, 4, 1, 2, 0);
         works(x, 0, 5, -1, 0, 2, 9);
         Check.is("fresh", x.count(4), 9);
         Check.is("ran off", x.count(5), 9);
@@ -347,10 +348,11 @@ final class DaysTest {
             x.machine(1);
             x.lot(1, 1, i, 0, 255, 0, 0);
             x.load(i, i);
+            led(x, i, 0, 1, 1, i);
         }
         x.days(1);
         for (int i = 0; i < 4; i++) {
-            led(x, i, 0, 3, 1, i, 4, 1, 9, 0, 15, 1);
+            led(x, i, 0, 3, 1, -1, 4, 1, 9, 0, 15, 1);
             works(x, i, 1, -1, 0, i, 0);
         }
     }

@@ -544,10 +544,19 @@ final class ModelTest {
         }
     }
 
+    private int machineOf(Batch lot) {
+        for (Washer one : washers) {
+            if (one.in == lot || one.queue.contains(lot)) {
+                return one.number;
+            }
+        }
+        return -1;
+    }
+
     private void compareLot(int run, Batch lot) {
         boolean meets = lot.look[0] >= lot.from && lot.look[1] <= lot.to && lot.look[2] >= lot.strength
                 && lot.look[4] == 0;
-        int[] all = {lot.state(), lot.on == null ? -1 : lot.on.number, lot.done, lot.recipe.size(), lot.washed,
+        int[] all = {lot.state(), machineOf(lot), lot.done, lot.recipe.size(), lot.washed,
             lot.look[0], lot.look[1], lot.look[2], lot.look[3], lot.look[4],
             lot.from0 == null ? -1 : lot.from0.number, lot.pieces, lot.still.size(), lot.delivered, meets ? 1 : 0,
             lot.cloth};

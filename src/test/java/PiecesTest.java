@@ -139,7 +139,9 @@ final class PiecesTest {
         Check.is("and known", x.known(0, 0, 1), 2);
         Check.is("but not sorted", x.sorted(0, 1, 2), 2);
         Check.is("load", x.load(1, 0), true);
+        Check.is("loaded on", x.led(1, 1), 0);
         x.days(1);
+        Check.is("washed: on no machine", x.led(1, 1), -1);
         Check.is("stone 3: the least", x.led(1, 5), 109);
         Check.is("the greatest", x.led(1, 6), 127);
         Check.is("the weakest", x.led(1, 7), 75);
