@@ -6,15 +6,24 @@ final class Check {
 
     private static int asked = 0;
     private static int wrong = 0;
+    /** What the answers are looked at for, told ahead of each one that is not due. */
+    private static String about = "";
 
     private Check() {
+    }
+
+    static void about(String matter) {
+        about = matter;
+    }
+
+    static int asked() {
+        return asked;
     }
 
     static void is(String what, Object got, Object due) {
         asked++;
         if (!got.equals(due)) {
-            wrong++;
-            System.out.println(what + " answered " + got + ", due is " + due);
+            tellWrong(what, got, due);
         }
     }
 
@@ -28,9 +37,13 @@ final class Check {
             got = e.getClass();
         }
         if (got != due) {
-            wrong++;
-            System.out.println(what + " answered " + got + ", due is " + due);
+            tellWrong(what, got, due);
         }
+    }
+
+    private static void tellWrong(String what, Object got, Object due) {
+        wrong++;
+        System.out.println(about + what + " answered " + got + ", due is " + due);
     }
 
     static void index(String what, Call call) {
