@@ -27,18 +27,23 @@ final class Check {
         }
     }
 
-    /** The class must be that very one: what the machine throws by itself is of a class below it. */
+    /** The class must be that very one, and the class TrouserWash must have thrown it: not the machine, nor the library. */
     static void fails(String what, Class<? extends RuntimeException> due, Call call) {
         asked++;
         Object got;
         try {
             got = call.run();
         } catch (RuntimeException e) {
-            got = e.getClass();
+            got = isThrownByTheClass(e) ? e.getClass() : e + ", which it did not throw itself";
         }
         if (got != due) {
             tellWrong(what, got, due);
         }
+    }
+
+    private static boolean isThrownByTheClass(RuntimeException e) {
+        StackTraceElement[] trace = e.getStackTrace();
+        return trace.length > 0 && trace[0].getClassName().startsWith("TrouserWash");
     }
 
     private static void tellWrong(String what, Object got, Object due) {

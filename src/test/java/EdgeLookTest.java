@@ -249,6 +249,8 @@ final class EdgeLookTest {
         row(x, 0, 99, 0, 6, 4, 0);
         TrouserWash y = withCloth(100, 80, 0);
         row(y, 82, 88, 74, 6, 15, 2, 2, 3);
+        row(y, 82, 90, 74, 6, 15, 2, 2, 3);
+        row(y, 82, 90, 75, 6, 16, 0, 0, 2, 3);
     }
 
     private static void row(TrouserWash x, int from, int to, int strength, int most, int cost, int... baths) {

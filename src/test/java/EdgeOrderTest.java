@@ -91,6 +91,19 @@ final class EdgeOrderTest {
         }
         Check.is("no 10th", x.batch(3), -1);
         Check.is("their ORDER", x.order(), 500);
+        Check.is("the first of nine counts", oneOfNine(0), 7);
+        Check.is("the last of nine counts", oneOfNine(8), 7);
+    }
+
+    /** Nine BATCHES of which one alone is of another KIND. */
+    private static int oneOfNine(int place) {
+        TrouserWash x = new TrouserWash();
+        x.carry(0, 5, 7);
+        x.carry(5, 0, 7);
+        for (int i = 0; i < 9; i++) {
+            x.batch(i == place ? 5 : 0);
+        }
+        return x.order();
     }
 
     /** A ring 0 to 1 to 2 to 3 to 4 to 5 to 0 of 1 litre each, all else 50: it is cut where it is dearest. */
@@ -133,12 +146,35 @@ final class EdgeOrderTest {
         Check.is("two of it", y.order(), 0);
         y.batch(2);
         Check.is("with another one", y.order(), -1);
+        onceEach();
         TrouserWash z = withBatches(0, 1, 0, 1, 0, 1, 0, 1, 0);
         z.carry(0, 1, -1);
         z.carry(1, 0, -1);
         Check.is("nine", z.order(), -1);
         z.carry(1, 0, 100);
         Check.is("nine, one way", z.order(), 100);
+    }
+
+    /** KIND 0 may stand between all the others, but there is one BATCH of it alone. */
+    private static void onceEach() {
+        int[][] rows = {{0, 1, 2, 3}, {1, 2, 3, 0}, {1, 0, 2, 3}};
+        for (int[] row : rows) {
+            TrouserWash x = withBatches(row);
+            for (int a = 1; a <= 3; a++) {
+                x.carry(a, 0, 1);
+                x.carry(0, a, 1);
+                x.carry(a, a % 3 + 1, 100);
+                x.carry(a % 3 + 1, a, 100);
+            }
+            Check.is("one dear CARRY is needed", x.order(), 102);
+            for (int a = 1; a <= 3; a++) {
+                x.carry(a, a % 3 + 1, -1);
+                x.carry(a % 3 + 1, a, -1);
+            }
+            Check.is("which is BARRED", x.order(), -1);
+            x.batch(0);
+            Check.is("with a second BATCH of KIND 0", x.order(), 4);
+        }
     }
 
     private static void noneBars() {

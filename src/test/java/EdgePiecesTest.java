@@ -454,13 +454,19 @@ final class EdgePiecesTest {
         measureAll(x, 1, 100, 100);
         Check.is("three of five", x.deliver(0, 1), 3);
         Check.is("counted", x.count(17), 3);
+        x.lot(0, 5, 0, 90, 110, 0, 2);
+        x.load(2, 0);
+        x.days(1);
+        measureAll(x, 2, 100, 100, 100, 100, 100);
+        Check.is("five of five", x.deliver(0, 1), 5);
+        Check.is("counted with those before", x.count(17), 8);
         for (int i = 0; i < 6; i++) {
             x.days(60);
         }
         x.lot(0, 1, 0, 90, 110, 0, 400);
-        x.load(2, 0);
+        x.load(3, 0);
         x.days(60);
-        x.measure(2, 0, 100);
+        x.measure(3, 0, 100);
         Check.house(x, "pack 1");
         Check.is("on the last day", x.deliver(0, 1), 0);
     }

@@ -209,6 +209,10 @@ final class EdgeTapeTest {
         wrong("Wash 1", 0);
         wrong("wash 1a", 6);
         wrong("rinse;wash" + (char) 225 + "1", 10);
+        right(" ".repeat(395) + "rinse", 1, 1);
+        wrong(" ".repeat(396) + "rins", 396);
+        wrong(" ".repeat(396) + "wash", 400);
+        wrong(" ".repeat(397) + "was", 397);
     }
 
     private static void blanks() {
