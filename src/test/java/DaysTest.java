@@ -287,22 +287,23 @@ final class DaysTest {
         Check.is("the rest is in it", x.has(1, 2), 24);
     }
 
-    /** Machine 0 uses fresh water first; machine 1 finds what it poured. */
+    /** Machine 0 rinses with fresh water first; machine 1 washes with what it poured. */
     private static void machinesByNumber() {
         TrouserWash x = withCloth();
-        Check.house(x, "litres 1;pours wash to 0;bears wash 100");
+        Check.house(x, "litres 1;pours rinse to 0;bears wash 100");
         x.tank(1000);
         x.machine(60);
         x.machine(60);
         Check.recipe(x, "wash 1");
         lot(x, 30, 0);
+        Check.recipe(x, "rinse");
         lot(x, 20, 0);
         x.load(0, 1);
         x.load(1, 0);
         x.days(1);
         Check.is("fresh: 20 for machine 0, 10 for machine 1", x.count(4), 30);
-        Check.is("water", x.has(0, 1), 30);
-        Check.is("dirt", x.has(0, 2), 50);
+        Check.is("water", x.has(0, 1), 0);
+        Check.is("dirt that ran off", x.count(8), 20 + 30);
     }
 
     private static void laterRecipeChangesNothing() {

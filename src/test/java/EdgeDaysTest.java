@@ -39,6 +39,8 @@ final class EdgeDaysTest {
                 EdgeDaysTest::soManyDays);
         Edge.of("Of a LOT what 0: 0 WAITING, 1 LOADED, 2 in a MACHINE, 3 WASHED; 1 the MACHINE (NONE), 2 BATHS done, 3 "
                 + "BATHS of its RECIPE, 4 the day it was WASHED (NONE)", EdgeDaysTest::ledOnTheWay);
+        Edge.of("5 and 6 the least and the greatest SHADE of its LOOK, 7 and 8 STRENGTH, 9 1 with LYE",
+                EdgeDaysTest::ledLook);
         Edge.of("10 the LOT from which it came (NONE), 11 pieces, 12 of them still of it, 13 delivered, 14 whether its "
                 + "LOOK SURELY meets its WISH (1, 0), 15 its CLOTH. NoSuchElementException: another what.",
                 EdgeDaysTest::ledOfALot);
@@ -218,17 +220,21 @@ final class EdgeDaysTest {
         exactly(25, 20, 0);
     }
 
-    /** MACHINE 0 is first, though its LOT was told and LOADED last: it uses fresh water, MACHINE 1 what it poured. */
+    /** The wash finds the water of the rinse only if the rinse is on the MACHINE of the lesser number. */
     private static void byNumbers() {
-        TrouserWash x = with(10, 10);
-        x.tank(1000);
-        Check.house(x, "litres 1;pours wash to 0;bears wash 100");
-        Check.recipe(x, "wash 1");
-        x.load(lot(x, 7, 0), 1);
-        x.load(lot(x, 3, 0), 0);
-        x.days(1);
-        counts(x, 4, 3 + 4, 6, 10);
-        Check.is("WATER", x.has(0, 1), 7);
+        int[][] due = {{0, 5 + 3, 3}, {1, 3 + 2, 0}};
+        for (int[] d : due) {
+            TrouserWash x = with(10, 10);
+            x.tank(1000);
+            Check.house(x, "litres 1;pours rinse to 0;bears wash 100");
+            Check.recipe(x, "wash 1");
+            x.load(lot(x, 5, 0), d[0]);
+            Check.recipe(x, "rinse");
+            x.load(lot(x, 3, 0), 1 - d[0]);
+            x.days(1);
+            Check.is("FRESH, the wash on " + d[0], x.count(4), d[1]);
+            Check.is("WATER, the wash on " + d[0], x.has(0, 1), d[2]);
+        }
     }
 
     private static void exactly(int minutes, int n, int done) {
@@ -295,6 +301,26 @@ final class EdgeDaysTest {
         x.days(1);
         counts(x, 4, 100, 5, 100, 8, 100, 7, 0);
         Check.is("CARRY from the KIND of another day", x.works(0, 4), 100);
+        laterOneNot();
+    }
+
+    /** 99 minutes are left: the first LOT wants a CARRY of 100, so that the one behind it is not taken either. */
+    private static void laterOneNot() {
+        TrouserWash x = with(1);
+        Check.house(x, "minutes wash 19;minutes rinse 1");
+        x.carry(0, 1, 100);
+        Check.recipe(x, "wash 20;rinse");
+        loaded(x, 1, 0);
+        x.recipe();
+        loaded(x, 1, 1);
+        loaded(x, 1, 0);
+        x.days(1);
+        works(x, 0, 1, -1, 2, 0, 381);
+        led(x, 2, 0, 1);
+        x.days(1);
+        works(x, 0, 1, -1, 0, 0, 481);
+        led(x, 1, 4, 2);
+        led(x, 2, 4, 2);
     }
 
     private static void carryAfter(String first, int litres, int minutes, int taken) {
@@ -590,6 +616,25 @@ final class EdgeDaysTest {
         led(x, 0, 0, 3, 1, -1, 2, 2, 3, 2, 4, 2);
         x.days(9);
         led(x, 0, 0, 3, 1, -1, 2, 2, 3, 2, 4, 2);
+    }
+
+    private static void ledLook() {
+        TrouserWash x = with(1);
+        lot(x, 1, 0);
+        led(x, 0, 5, 100, 6, 100, 7, 80, 8, 80, 9, 0);
+        String[] recipes = {"stone 1;bleach 1", "stone 1;bleach 1;rinse"};
+        for (int i = 0; i < 2; i++) {
+            Check.recipe(x, recipes[i]);
+            loaded(x, 1, 0);
+            x.days(1);
+            led(x, 1 + i, 5, 93, 6, 97, 7, 76, 8, 79, 9, 1 - i);
+        }
+        x.cloth(0, 0, 0);
+        x.lot(1, 1, 0, 0, 255, 0, 0);
+        x.cloth(255, 255, 0);
+        x.lot(2, 1, 0, 0, 255, 0, 0);
+        led(x, 3, 5, 0, 6, 0, 7, 0, 8, 0, 9, 0);
+        led(x, 4, 5, 255, 6, 255, 7, 255, 8, 255, 9, 0);
     }
 
     private static void ledOfALot() {

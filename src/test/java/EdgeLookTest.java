@@ -5,7 +5,8 @@ final class EdgeLookTest {
                 EdgeLookTest::cloths);
         Edge.of("A CLOTH: its number. IllegalArgumentException: a number is none; UnsupportedOperationException: there "
                 + "are 6.", EdgeLookTest::seventhCloth);
-        Edge.of("A CLOTH begins with its own numbers, and no LYE.", EdgeLookTest::begins);
+        Edge.of("A LOOK: a span of SHADE and one of STRENGTH, each from a least to a greatest number; and whether LYE is "
+                + "in it. A CLOTH begins with its own numbers, and no LYE.", EdgeLookTest::begins);
         Edge.of("wash: SHADE is at least n halves, rounded down, and at most n less", EdgeLookTest::wash);
         Edge.of("stone: SHADE at least n and at most n and 3 less, STRENGTH at least n and at most n and 2 less",
                 EdgeLookTest::stone);
@@ -17,7 +18,8 @@ final class EdgeLookTest {
         Edge.of("What is at most taken off gives the least number, what is at least taken off the greatest.",
                 EdgeLookTest::leastAndGreatest);
         Edge.of("COST of a BATH: wash n, stone 3 n, bleach 2 n and 1, rinse 1.", EdgeLookTest::costs);
-        Edge.of("a LOOK SURELY meets it, if its whole spans do, and no LYE is in it.", EdgeLookTest::surely);
+        Edge.of("WISH: SHADE from one number to another one, STRENGTH at least so much: a LOOK SURELY meets it, if its "
+                + "whole spans do, and no LYE is in it.", EdgeLookTest::surely);
         Edge.of("CHEAPEST: of all rows of at most so many (0 to 6) of the BATHS wash 4, stone 2, bleach 3, rinse",
                 EdgeLookTest::soMany);
         Edge.of("that of the least COST, of several that with the fewest BATHS, of these the first in the order wash, "

@@ -222,9 +222,14 @@ final class EdgePiecesTest {
         Check.is("those are gone", x.again(0), -1);
         x.measure(0, 3, 255);
         Check.is("though one is measured again", x.again(0), -1);
-        x.measure(0, 4, 111);
+        Check.house(x, "again 1 times with wash 1;pack 1");
+        Check.is("one is delivered", x.deliver(0, 1), 0);
+        x.measure(0, 4, 255);
+        Check.is("that one goes no more", x.again(0), -1);
+        x.measure(0, 5, 111);
         Check.is("one alone", x.again(0), 2);
-        led(x, 2, 10, 0, 11, 1);
+        led(x, 2, 5, 111, 6, 111, 10, 0, 11, 1);
+        led(x, 0, 12, 1, 13, 1);
         Edge.numbered("piece of the new LOT", 3, n -> x.known(1, n, 2));
     }
 
@@ -258,6 +263,20 @@ final class EdgePiecesTest {
         Check.is("on its DUE", x.deliver(1, 1), 0);
         x.days(1);
         Check.is("behind its DUE", x.deliver(1, 1), 1);
+        dueIsOver();
+    }
+
+    /** DUE is 2, the new LOT comes on day 4 and is delivered on day 5. */
+    private static void dueIsOver() {
+        TrouserWash x = washed(2);
+        Check.house(x, "again 1 times with wash 1;pack 1");
+        x.days(3);
+        x.measure(0, 0, 111);
+        x.load(x.again(0), 0);
+        x.days(1);
+        x.measure(1, 0, 110);
+        Check.is("the same DUE, though it is over", x.deliver(0, 1), 1);
+        Check.is("it was of the new LOT", x.led(1, 13), 1);
     }
 
     private static void lookBegins() {
@@ -388,6 +407,12 @@ final class EdgePiecesTest {
             measureAll(x, 0, c[1], c[2], c[1]);
             Check.is(c[1] + " to " + c[2] + " for band " + c[0], x.ready(0), c[3]);
         }
+        TrouserWash steps = washed(3);
+        measureAll(steps, 0, 100, 102, 104);
+        Check.house(steps, "pack 3;band 3");
+        Check.is("not from one to the next", steps.ready(0), 0);
+        Check.house(steps, "pack 3;band 4");
+        Check.is("from the first to the last", steps.ready(0), 1);
         TrouserWash x = washed(7);
         Check.house(x, "pack 2;band 2");
         measureAll(x, 0, 90, 93, 95, 97, 99, 103, 105);

@@ -5,7 +5,8 @@ final class EdgeTankTest {
                 + "(both 0 at first).", EdgeTankTest::tanks);
         Edge.of("A DRAW of n litres (1 to 1000) by a BATH that bears so much DIRT in a hundred litres (0 to 100)",
                 EdgeTankTest::drawNumbers);
-        Edge.of("(the dirtiest that it bears first, compared exactly", EdgeTankTest::dirtiestFirst);
+        Edge.of("from TANKS, in the order of their DIRT in a hundred litres (the dirtiest that it bears first, compared "
+                + "exactly", EdgeTankTest::dirtiestFirst);
         Edge.of("of several the least number", EdgeTankTest::leastNumber);
         Edge.of("TANKS without WATER have none)", EdgeTankTest::withoutWater);
         Edge.of("as much as each has, and what lacks fresh", EdgeTankTest::whatLacks);
