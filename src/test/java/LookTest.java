@@ -12,6 +12,7 @@ final class LookTest {
         meets();
         cheapestEdges();
         cheapestAgainstAllRows();
+        cheapestOfLongRows();
         Check.done("LookTest");
     }
 
@@ -155,5 +156,60 @@ final class LookTest {
             }
         }
         return best;
+    }
+
+    /** The WISH is just what a row of many BATHS comes to, so that the CHEAPEST is mostly a long one. */
+    private static void cheapestOfLongRows() {
+        Random random = new Random(2);
+        for (int i = 0; i < 200; i++) {
+            int hard = random.nextInt(10);
+            int[] cloth = {random.nextInt(200), 0, random.nextInt(100), 0};
+            cloth[1] = cloth[0];
+            int most = 5 + random.nextInt(2);
+            int[] wish = cloth;
+            for (int k = 0; k < most - 1; k++) {
+                wish = after(wish, random.nextInt(3), hard);
+            }
+            int[] wishAndMost = {wish[0], wish[1], wish[2], most};
+            int[] best = bestRow(cloth, hard, wishAndMost, new int[] {0}, new int[] {-1});
+            TrouserWash x = new TrouserWash();
+            x.cloth(cloth[0], cloth[2], hard);
+            String what = "cheapest of " + wish[0] + " to " + wish[1] + ", " + wish[2] + ", " + most;
+            Check.is(what, x.cheapest(0, wish[0], wish[1], wish[2], most), best[0]);
+            for (int k = 0; k < 7; k++) {
+                int due = k + 1 < best.length ? best[k + 1] : -1;
+                Check.is(what + ", bath " + k, x.bath(0, wish[0], wish[1], wish[2], most, k), due);
+            }
+        }
+    }
+
+    /** The least and the greatest SHADE, the least STRENGTH, and 1 with LYE, after one more of the four BATHS. */
+    private static int[] after(int[] look, int bath, int hard) {
+        int[][] less = {{4, 2, 0}, {5, 2, 4 + 5 * look[3]}, {Math.max(0, 9 - hard), Math.max(0, 6 - hard), 3},
+            {0, 0, 0}};
+        int[] next = {0, 0, 0, bath == 2 ? 1 : bath == 3 ? 0 : look[3]};
+        for (int k = 0; k < 3; k++) {
+            next[k] = Math.max(0, look[k] - less[bath][k]);
+        }
+        return next;
+    }
+
+    /** All rows that go on from this one, none left out; a row is its COST, then its BATHS. */
+    private static int[] bestRow(int[] look, int hard, int[] wish, int[] row, int[] best) {
+        if (look[0] >= wish[0] && look[1] <= wish[1] && look[2] >= wish[2] && look[3] == 0 && isBetter(row, best)) {
+            best = row;
+        }
+        for (int bath = 0; bath < 4 && row.length <= wish[3]; bath++) {
+            int[] longer = java.util.Arrays.copyOf(row, row.length + 1);
+            longer[row.length] = bath;
+            longer[0] += new int[] {4, 6, 7, 1}[bath];
+            best = bestRow(after(look, bath, hard), hard, wish, longer, best);
+        }
+        return best;
+    }
+
+    /** Rows of one length come in the order BATH by BATH, so of two such the one that came first stays. */
+    private static boolean isBetter(int[] row, int[] best) {
+        return best[0] == -1 || row[0] < best[0] || row[0] == best[0] && row.length < best.length;
     }
 }
